@@ -81,15 +81,16 @@ final class DiskTest {
         }
     }
 
+    /** A new object for each block: 64 blocks of 40 words are more calls than one object has. */
     private static void smallerAndLargerDisks() {
-        BlockStore x = Stores.up(40, 64, 8);
-        Stores.commit(x, 1, 40);
-        x.checkpoint();
-        checks.due("disk(16, 16, 4)", x.disk(16, 16, 4), true);
-        checks.due("disk(64, 40, 9)", x.disk(64, 40, 9), true);
         for (int b = 0; b < 64; b++) {
+            BlockStore x = Stores.up(40, 64, 8);
+            Stores.commit(x, 1, 40);
+            x.checkpoint();
+            checks.due("disk(16, 16, 4)", x.disk(16, 16, 4), true);
+            checks.due("disk(64, 40, 9)", x.disk(64, 40, 9), true);
             checks.dueZeroBlock(x, b, 40);
+            checks.due("count(8)", x.count(8), 27);
         }
-        checks.due("count(8)", x.count(8), 27);
     }
 }

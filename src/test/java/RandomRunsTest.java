@@ -1,8 +1,8 @@
 import java.util.Random;
 
-/** All promises: runs of 512 calls, drawn from fixed seeds, against the model, with the whole disk at times. */
+/** All promises: runs of 512 calls, drawn from fixed seeds, against the model; the last ones look at the disk. */
 final class RandomRunsTest {
-    private static final int RUNS = 1500;
+    private static final int RUNS = 6000;
     private static final int CALLS = 512;
     private static final Checks checks = new Checks("RandomRunsTest");
 
@@ -11,6 +11,7 @@ final class RandomRunsTest {
     private final Model m = new Model();
     private int blocks = 16;
     private int words = 16;
+    private int calls = 0;
     private final int keySpread;
     private final int putsInARow;
     private final int powerOneIn;
@@ -33,11 +34,15 @@ final class RandomRunsTest {
         if (random.nextInt(10) > 0) {
             newDisk(seed);
         }
-        for (int call = 0; call < CALLS; call++) {
+        int changing = 50 + random.nextInt(400);
+        for (int turn = calls; turn < changing; turn++) {
             step(seed);
-            if (call % 64 == 63) {
-                wholeDisk(seed);
-            }
+        }
+        for (int what = 0; what <= 8; what++) {
+            due(seed, "count(" + what + ")", x.count(what), m.count(what));
+        }
+        for (int turn = calls; turn < CALLS; turn++) {
+            look(seed);
         }
     }
 
@@ -143,25 +148,24 @@ final class RandomRunsTest {
         }
     }
 
-    /** Looks at more words than an object's 512 calls allow; a look changes nothing in this program. */
-    private void wholeDisk(int seed) {
-        for (int what = 0; what <= 8; what++) {
-            due(seed, "count(" + what + ")", x.count(what), m.count(what));
-        }
-        for (int b = 0; b < blocks; b++) {
-            for (int i = 0; i < words; i++) {
-                if (x.word(b, i) != m.word(b, i)) {
-                    due(seed, "word(" + b + ", " + i + ")", x.word(b, i), m.word(b, i));
-                }
-            }
-        }
-        for (int i = 0; i < m.size(); i++) {
-            due(seed, "key(" + i + ")", x.key(i), m.key(i));
+    /** Mostly at a word that is not 0 in the model, for most of a disk is. */
+    private void look(int seed) {
+        if (m.size() > 0 && random.nextInt(3) == 0) {
+            int i = random.nextInt(m.size());
             due(seed, "get(" + m.key(i) + ")", x.get(m.key(i)), m.get(m.key(i)));
+            return;
         }
+        int b = 0;
+        int i = 0;
+        for (int tries = 0; tries < 20 && m.word(b, i) == 0 || tries == 0; tries++) {
+            b = random.nextInt(blocks);
+            i = random.nextInt(words);
+        }
+        due(seed, "word(" + b + ", " + i + ")", x.word(b, i), m.word(b, i));
     }
 
     private void due(int seed, String call, long got, long want) {
+        calls++;
         checks.due("seed " + seed + ": " + call, got, want);
     }
 }
