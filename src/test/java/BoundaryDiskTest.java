@@ -4,6 +4,7 @@ final class BoundaryDiskTest implements Answers {
 
     public static void main(String[] args) {
         newObject();
+        ownMemory();
         blocks();
         words();
         log();
@@ -23,6 +24,16 @@ final class BoundaryDiskTest implements Answers {
         says.of(1, "WITHOUT a disk until disk() answers true",
                 x -> x.due("disk(0, 0, 0)", FALSE).due("state()", IS_WITHOUT).disk(16, 16, 4)
                         .due("state()", IS_UNFORMATTED));
+    }
+
+    private static void ownMemory() {
+        says.of(1, "all memory is the store's own: another object has none of it", x -> {
+            x.up(16, 16, 4).commit(1, 3).all(OK, "begin()", "put(4, 4)", "power(5)");
+            new Run(says).due("state()", IS_WITHOUT).due("size()", 0).due("word(0, 0)", 0).up(17, 17, 5)
+                    .due("size()", 0).due("count(0)", 2).due("count(1)", 0).due("count(6)", NO_TRANSACTION);
+            x.due("state()", IS_UP).due("size()", 4).due("count(0)", 3).due("count(1)", 5).due("count(6)", 1)
+                    .due("count(8)", 5).due("commit()", OK);
+        });
     }
 
     private static void wrong(String sentence, String call) {

@@ -8,6 +8,9 @@ final class Run implements Answers {
     private final BlockStore store = new BlockStore();
     private int calls = 0;
     private int mostCalls = PROMISED_CALLS;
+    private int wordsOfBlock = 0;
+    private DiskWords disk = null;
+    private boolean givenUp = false;
 
     Run(Sentences sentences) {
         this.sentences = sentences;
@@ -21,6 +24,9 @@ final class Run implements Answers {
 
     /** Makes the call; its answer is due (a boolean counts 1 or 0). */
     Run due(String call, long want) {
+        if (givenUp) {
+            return this;
+        }
         calls++;
         if (calls > mostCalls) {
             sentences.wrong("call " + calls + " is behind what is promised");
@@ -49,6 +55,7 @@ final class Run implements Answers {
     }
 
     Run disk(int blocks, int words, int log) {
+        wordsOfBlock = words;
         return due("disk(" + blocks + ", " + words + ", " + log + ")", TRUE);
     }
 
@@ -88,6 +95,47 @@ final class Run implements Answers {
             due("word(" + block + ", " + i + ")", 0);
         }
         return this;
+    }
+
+    /** Sets a word behind the program's back; the block's SUM stays as it is. */
+    Run damage(int block, int i, int value) {
+        if (findDisk()) {
+            disk.set(block, i, value);
+            due("word(" + block + ", " + i + ")", value);
+        }
+        return this;
+    }
+
+    /** Sets words from i on behind the program's back, and the block's SUM, so that it is GOOD. */
+    Run forge(int block, int i, int... values) {
+        if (findDisk()) {
+            for (int k = 0; k < values.length; k++) {
+                disk.set(block, i + k, values[k]);
+            }
+            int sum = 7;
+            for (int k = 0; k < wordsOfBlock - 1; k++) {
+                sum = 31 * sum + store.word(block, k);
+            }
+            disk.set(block, wordsOfBlock - 1, sum);
+            due("word(" + block + ", " + (wordsOfBlock - 1) + ")", sum);
+        }
+        return this;
+    }
+
+    /** Where the words can't be found the sentence is given up: how an object holds them is free. */
+    private boolean findDisk() {
+        if (disk == null && !givenUp) {
+            try {
+                disk = DiskWords.of(store, wordsOfBlock);
+            } catch (IllegalAccessException hidden) {
+                disk = null;
+            }
+            if (disk == null) {
+                givenUp = true;
+                sentences.giveUp();
+            }
+        }
+        return !givenUp;
     }
 
     private long answer(String call) throws ReflectiveOperationException {

@@ -6,6 +6,7 @@ final class Sentences {
     private String told = "";
     private int sentences = 0;
     private int broken = 0;
+    private int givenUp = 0;
     private int compared = 0;
     private int wrong = 0;
 
@@ -34,6 +35,10 @@ final class Sentences {
         }
     }
 
+    void giveUp() {
+        givenUp++;
+    }
+
     void wrong(String what) {
         wrong++;
         if (wrong <= 5) {
@@ -42,7 +47,7 @@ final class Sentences {
     }
 
     void end() {
-        System.out.println(test + ": " + sentences + " sentences, " + broken + " broken");
+        System.out.println(test + ": " + sentences + " sentences, " + broken + " broken, " + givenUp + " given up");
         if (broken != 0) {
             System.exit(1);
         }
