@@ -4,7 +4,7 @@ import java.lang.reflect.Modifier;
 import java.util.ArrayList;
 import java.util.List;
 
-/** The disk's words inside an object, wherever it holds them, so that a test can damage what no call can. */
+/** The disk's words inside an object, wherever it holds them, so that a look can damage what no call can. */
 final class DiskWords {
     private static final int MOST_WORDS = 64;
 

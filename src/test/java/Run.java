@@ -16,7 +16,7 @@ final class Run implements Answers {
         this.sentences = sentences;
     }
 
-    /** For a sentence that no run of 512 calls can reach. */
+    /** For a look alone: no test asks what is behind the 512th call. */
     Run mayCall(int most) {
         mostCalls = most;
         return this;
@@ -97,7 +97,7 @@ final class Run implements Answers {
         return this;
     }
 
-    /** Sets a word behind the program's back; the block's SUM stays as it is. */
+    /** For a look alone: sets a word behind the program's back; the block's SUM stays as it is. */
     Run damage(int block, int i, int value) {
         if (findDisk()) {
             disk.set(block, i, value);
@@ -106,7 +106,7 @@ final class Run implements Answers {
         return this;
     }
 
-    /** Sets words from i on behind the program's back, and the block's SUM, so that it is GOOD. */
+    /** For a look alone: sets words from i on behind the program's back, and the block's SUM, so that it is GOOD. */
     Run forge(int block, int i, int... values) {
         if (findDisk()) {
             for (int k = 0; k < values.length; k++) {

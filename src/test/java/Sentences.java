@@ -15,7 +15,11 @@ final class Sentences {
     }
 
     void of(int promise, String sentence, Consumer<Run> calls) {
-        told = "promise " + promise + ": " + sentence;
+        of("promise " + promise + ": " + sentence, calls);
+    }
+
+    void of(String sentence, Consumer<Run> calls) {
+        told = sentence;
         compared = 0;
         wrong = 0;
         sentences++;

@@ -7,7 +7,6 @@ final class TransactionTest {
         put();
         remove();
         abort();
-        sixHundredChanges();
         checks.end();
     }
 
@@ -84,28 +83,5 @@ final class TransactionTest {
         checks.due("has(4)", x.has(4), false);
         checks.due("count(0)", x.count(0), 3);
         checks.due("count(2)", x.count(2), 1);
-    }
-
-    /** The document frees an object's answers behind its 512th call; these are what its words ask all the same. */
-    private static void sixHundredChanges() {
-        BlockStore x = Stores.up(512, 64, 128);
-        Stores.commit(x, 1000, 1001);
-        x.begin();
-        for (int key = 0; key < 599; key++) {
-            checks.due("put(" + key + ", 1)", x.put(key, 1), BlockStore.OK);
-        }
-        checks.due("remove(1000)", x.remove(1000), BlockStore.OK);
-        checks.due("count(6)", x.count(6), 600);
-        checks.due("put(600, 1)", x.put(600, 1), BlockStore.FULL);
-        checks.due("remove(1001)", x.remove(1001), BlockStore.FULL);
-        checks.due("remove(1002)", x.remove(1002), BlockStore.ABSENT);
-        checks.due("put(5, 2)", x.put(5, 2), BlockStore.OK);
-        checks.due("remove(6)", x.remove(6), BlockStore.OK);
-        checks.due("put(1000, 3)", x.put(1000, 3), BlockStore.OK);
-        checks.due("count(6)", x.count(6), 600);
-        checks.due("commit()", x.commit(), BlockStore.OK);
-        checks.due("recover()", x.recover(), BlockStore.OK);
-        checks.due("size()", x.size(), 600);
-        checks.due("get(1000)", x.get(1000), 3);
     }
 }

@@ -1,9 +1,9 @@
 /**
- * Promises 3, 5 and 11 on disks that no run of calls makes: words are changed behind the program's back, so that each
- * condition of a GOOD HEAD and of a WHOLE record is the only one that does not hold.
+ * A look, no test: the words of promises 3, 5 and 11 on disks that no run of calls makes. Words are changed behind the
+ * program's back, so that each condition of a GOOD HEAD and of a WHOLE record is the only one that does not hold.
  */
-final class BoundaryDamageTest implements Answers {
-    private static final Sentences says = new Sentences("BoundaryDamageTest");
+final class DamageLook implements Answers {
+    private static final Sentences says = new Sentences("DamageLook");
 
     public static void main(String[] args) {
         head();
